@@ -1356,7 +1356,7 @@ public final class RoarMill {
             first.copyFrom(from);
             copyRow(settings, row);
             found = false;
-            search(m, 0, hours);
+            search(this, m, 0, hours);
             if (!found) {
                 return NONE;
             }
@@ -1366,30 +1366,34 @@ public final class RoarMill {
         }
 
         /** By RATES upwards, and only a lesser COST wins: so of like ones the least RATES stay. */
-        private void search(Mill m, int depth, int hours) {
+        private static void search(Planner p, Mill m, int depth, int hours) {
             if (depth < 0 || depth > PLAN_HOURS) {
                 return;
             }
-            Drum here = drums[depth];
+            Drum here = p.drums[depth];
             if (here == null) {
                 return;
             }
             if (depth >= hours || depth >= PLAN_HOURS) {
-                copyRow(rates, best);
-                bestCost = here.cost;
-                found = true;
+                p.keepBest(here.cost);
                 return;
             }
-            Drum there = drums[depth + 1];
+            Drum there = p.drums[depth + 1];
             for (int rate = 0; rate <= MOST_RATE && there != null; rate++) {
-                row[RATE] = rate;
+                p.row[RATE] = rate;
                 there.copyFrom(here);
-                there.runHour(m, row, 0);
-                if (there.wentWell() && (!found || there.cost < bestCost)) {
-                    rates[depth] = rate;
-                    search(m, depth + 1, hours);
+                there.runHour(m, p.row, 0);
+                if (there.wentWell() && (!p.found || there.cost < p.bestCost)) {
+                    p.rates[depth] = rate;
+                    search(p, m, depth + 1, hours);
                 }
             }
+        }
+
+        private void keepBest(int cost) {
+            copyRow(rates, best);
+            bestCost = cost;
+            found = true;
         }
 
         void keepRule(Mill m, Drum from, int[] settings, int hours) {
