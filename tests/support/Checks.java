@@ -12,6 +12,12 @@ final class Checks {
         part = name;
     }
 
+    /** What follows looks at this sentence, or part of one, of the document. */
+    void says(String part, String sentence) {
+        in(part + ", \"" + sentence + "\"");
+        due("the document says so", Doc.says(part, sentence), true);
+    }
+
     void due(String call, long got, long want) {
         asked++;
         if (got != want) {
