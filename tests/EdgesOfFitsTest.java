@@ -375,6 +375,13 @@ public final class EdgesOfFitsTest {
         checks.fine("some", x, x.fits(), 20);
         x.seen(0, 0, 161, 0);
         checks.fine("none", x, x.fits(), 0);
+        x.forget();
+        x.seen(0, 0, 160, 0);
+        x.program(0, 2, 1, 0);
+        checks.fine("by THE PROGRAM as it is now: 80 come", x, x.fits(), 0);
+        x.program(0, 0, 1, 0);
+        checks.fine("none comes", x, x.fits(), 20);
+        checks.due("fill", x.certain(2), 1);
         checks.says("Promise 14", "NONE: 1 (no MILL)");
         RoarMill none = new RoarMill();
         checks.refused("fits()", none, none.fits(), 1);
@@ -421,6 +428,7 @@ public final class EdgesOfFitsTest {
         x.forget();
         x.seen(0, 0, 160, 0);
         checks.fine("0 is no NONE", x, x.certain(2), 0);
+        justTwo();
         checks.says("Promise 16", "NONE: 1; 6 (no FITS)");
         checks.refused("what 3", x, x.certain(3), 1);
         for (int wrong : WRONG) {
@@ -431,6 +439,35 @@ public final class EdgesOfFitsTest {
         x.seen(0, 0, 161, 0);
         checks.refused("no FITS", x, x.certain(0), 6);
         checks.refused("no FITS, what 3", x, x.certain(3), 1);
+    }
+
+    /** POWER is 50, by the liner 37 or 25; of a 15 are out, of which 0, 4, 9 or 14 pass by TEARS. */
+    private static RoarMill telling() {
+        RoarMill x = Texts.mill("size a", "size b", "sieve b slips 33", "ore x hard 1 tons 50");
+        x.seen(0, 0, 50, 0);
+        return x;
+    }
+
+    private static void justTwo() {
+        RoarMill x = telling();
+        x.seen(0, 2, 0, 0);
+        x.seen(0, 1, 44, 7);
+        checks.due("fits()", x.fits(), 2);
+        checks.fine("two, the second is another: liner", x, x.certain(1), -2);
+        checks.fine("fill", x, x.certain(2), 0);
+        x.seen(0, 1, 50, 0);
+        checks.due("fits()", x.fits(), 1);
+        for (int what = 0; what < 3; what++) {
+            checks.fine("one alone, the first START", x, x.certain(what), 0);
+        }
+        checks.refused("one alone: swapped()", x, x.swapped(), 5);
+        x.forget();
+        x.seen(0, 0, 50, 0);
+        x.seen(0, 2, 14, 1);
+        x.seen(0, 1, 37, 0);
+        checks.due("fits()", x.fits(), 1);
+        checks.fine("one alone: TEARS", x, x.certain(0), 3);
+        checks.fine("one alone: liner", x, x.certain(1), 1);
     }
 
     private static void guess() {
@@ -474,6 +511,18 @@ public final class EdgesOfFitsTest {
         swappedPair(new int[][] {{0, 10, 0}, {1, 20, 0}}, 1);
         swappedPair(new int[][] {{2, 20, 0}, {6, 5, 0}}, 206);
         swappedPair(new int[][] {{2, 21, 0}, {6, 5, 0}}, -2);
+        // one START alone agrees, the first of all or the last
+        RoarMill one = Texts.mill("drum room 400 loud 200", "size a", "size b", "sieve b slips 30", "ore x hard 1 tons 50,10");
+        for (int start = 0; start < 2; start++) {
+            one.forget();
+            for (int hour = 0; hour < 2; hour++) {
+                one.seen(hour, 0, one.guess(3 * start, 4 * start, 4 * start, hour, 0), 0);
+                one.seen(hour, 1, one.guess(3 * start, 4 * start, 4 * start, hour, 1), 0);
+                one.seen(hour, 2, one.guess(3 * start, 4 * start, 4 * start, 1 - hour, 2), 0);
+                one.seen(hour, 3, one.guess(3 * start, 4 * start, 4 * start, 1 - hour, 3), 0);
+            }
+            checks.fine("START " + 99 * start, one, one.swapped(), 1);
+        }
         checks.says("Promise 18", "NONE: 1 (no MILL); 5 (there are FITS)");
         RoarMill none = new RoarMill();
         checks.refused("no MILL", none, none.swapped(), 1);

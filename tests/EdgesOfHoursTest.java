@@ -363,6 +363,11 @@ public final class EdgesOfHoursTest {
         x = first(1, 3, "bin 1 draws 0", "ore x hard 1 tons 50,50");
         checks.due("50 into 1: the bin", x.state(0), 1);
         checks.due("SPILT", x.state(1), 49);
+        // of 25 and 25 that stayed 12 and 12 pass
+        x.set(0, 3, 0);
+        x.go(1);
+        checks.due("24 more: the bin", x.state(0), 1);
+        checks.due("SPILT in all", x.state(1), 49 + 24);
     }
 
     private static void drawn() {

@@ -50,10 +50,24 @@ public final class EdgesOfPlansTest {
         checks.due("the bin", x.state(0), 5);
         checks.due("COST in all", x.state(12), 0);
         checks.due("RATE", x.state(14), 2);
+        x = Texts.mill("drum room 100 loud 10", "size a", "size b", "sieve b slips 50", "bin 999 draws 5", "price 1", "liner 4",
+            "ore x hard 1 tons 10");
+        x.set(1, 3, 0);
+        checks.refused("a sieve that is whole lets none of a pass", x, x.plan(1), 6);
+        x.mend(2, false);
+        // 10 of 100: EFFECT 60: POWER 6
+        planned(x, 6, 1);
+        checks.fine("rule(1)", x, x.rule(1), 6);
+        x.set(0, 3, 0);
+        x.go(2);
+        // by a liner half its LIFE old EFFECT is 30
+        planned(x, 3, 1);
+        x.mend(2, true);
+        planned(x, 6, 1);
         for (int i = 0; i < 23; i++) {
             x.go(10);
         }
-        x.go(9);
+        x.go(8);
         checks.due("NOW", x.state(7), 240);
         checks.in("beyond the last HOUR: go() alone is refused there");
         checks.refused("go(1)", x, x.go(1), 3);
@@ -153,6 +167,20 @@ public final class EdgesOfPlansTest {
         checks.due("HELD", x.tons(0, 0), 39);
         planned(x, 0, 0);
         checks.due("STANDS as before", x.state(6), 1);
+        // nothing comes in that HOUR, whatever the RATE: 19 of 39 pass, not 20
+        x = feeding(40, "bin 999 draws 19", "price 1");
+        x.set(2, 3, 1);
+        x.go(2);
+        checks.due("HELD", x.tons(0, 0), 39);
+        // 97 of 100: EFFECT 53, by the liner 52: POWER 20
+        planned(x, 20, 0);
+        checks.fine("rule(1)", x, x.rule(1), 20);
+        x = Texts.mill("drum room 40 loud 10", "bin 999 draws 20", "ore x hard 1 tons 50", "ore y hard 1 tons 1");
+        x.go(2);
+        x.set(0, 3, 1);
+        checks.due("HELD", x.tons(0, 0), 39);
+        checks.refused("20", x, x.plan(1), 6);
+        checks.fine("lacks(1)", x, x.lacks(1), 1);
     }
 
     private static void leastRateByRule() {

@@ -29,6 +29,7 @@ public final class EdgesOfTheTextTest {
         feed();
         millOfTheFirstBytes();
         millBeginsAnew();
+        millOfItsTextAlone();
         millRefused();
         fault();
         where();
@@ -282,6 +283,16 @@ public final class EdgesOfTheTextTest {
         faulty("size a breaks b", 1, 14);
         faulty("hello", 1, 0);
         faulty("5", 1, 0);
+        String all = GOOD.replace("size a", "size a breaks 1 next 1");
+        for (String word : new String[] {"size", "breaks", "next", "drum", "room", "loud", "sieve", "slips", "liner", "bin", "draws",
+            "price", "ore", "hard", "tons"}) {
+            int at = all.indexOf(word);
+            int end = at + word.length();
+            faulty(all.substring(0, at) + "q" + all.substring(at + 1), 1, at);
+            faulty(all.substring(0, end - 1) + "q" + all.substring(end), 1, at);
+            faulty(all.substring(0, end - 1) + all.substring(end), 1, at);
+            faulty(all.substring(0, end) + "q" + all.substring(end), 1, at);
+        }
         checks.says("Terms I", "(the end: its place)");
         faulty("drum room", 1, 9);
         faulty("drum room  ", 1, 11);
@@ -302,12 +313,20 @@ public final class EdgesOfTheTextTest {
         faulty("size a;ore x hard 1 tons 1;ore x hard 1 tons 1", 3, 31);
         faulty("size a;ore a hard 1 tons 1", 3, 11);
         faulty("size a;ore x hard 1 tons 1;size x", 3, 32);
-        sound(GOOD.replace("size b", "size aa"), 2);
+        for (char c = 'a'; c < 'x'; c++) {
+            sound(GOOD.replace("size a;size b", "size " + c + ";size " + c + c).replace("sieve a", "sieve " + c + c), 2);
+        }
         checks.says("Terms I", "a second drum, sieve, liner, bin or price; at that WORD");
         for (String line : new String[] {"drum room 100 loud 100", "sieve a slips 0", "liner 200", "bin 999 draws 0", "price 1"}) {
             faulty(GOOD + "; " + line, 3, GOOD.length() + 2);
             faulty(GOOD + ";" + line.substring(0, line.indexOf(' ')), 3, GOOD.length() + 1);
         }
+        // the first with the least WHOLES that it may have
+        faulty("drum room 20 loud 10;drum", 3, 21);
+        faulty("size a;sieve a slips 0;sieve", 3, 23);
+        faulty("liner 1;liner", 3, 8);
+        faulty("bin 1 draws 0;bin", 3, 14);
+        faulty("price 0;price", 3, 8);
     }
 
     private static void faultsFourAndFive() {
@@ -398,18 +417,11 @@ public final class EdgesOfTheTextTest {
         x.go(24);
     }
 
-    private static void millBeginsAnew() {
-        String two = Texts.with("size a breaks 50 next 100", "size b", "sieve b slips 20", "bin 5 draws 1", "ore x hard 1 tons 20",
-            "ore y hard 1 tons 40,40");
-        RoarMill x = Checks.milled(two);
-        used(x);
-        x.set(2, 2, 0);
-        x.go(1);
-        checks.in("what the next is told against");
-        checks.due("something is HELD", x.tons(0, 0) > 0, true);
-        checks.due("it stood", x.led(0) >= 0, true);
-        Checks.mill(x, two);
-        checks.says("Promise 3", "nothing HELD or going BACK, the bin empty, no TEARS, HOURS 0, it doesn't STAND, NOW 0");
+    private static final String ANEW = Texts.with("size a breaks 50 next 100", "size b", "sieve b slips 20", "bin 5 draws 1",
+        "ore x hard 1 tons 20", "ore y hard 1 tons 40,40");
+
+    private static void nothingOfBefore(RoarMill x) {
+        Checks.mill(x, ANEW);
         for (int size = 0; size < 2; size++) {
             for (int what = 0; what < 4; what++) {
                 checks.due("tons(" + size + ", " + what + ")", x.tons(size, what), 0);
@@ -418,6 +430,32 @@ public final class EdgesOfTheTextTest {
         for (int i = 0; i < 14; i++) {
             checks.due("state(" + i + ")", x.state(i), 0);
         }
+    }
+
+    private static void millBeginsAnew() {
+        RoarMill x = Checks.milled(ANEW);
+        used(x);
+        x.set(1, 3, 0);
+        x.go(10);
+        checks.in("what the next are told against: it goes");
+        for (int i = 0; i < 17; i++) {
+            if (i != 6 && i != 16) {
+                checks.due("state(" + i + ") is something", x.state(i) > 0, true);
+            }
+        }
+        for (int what = 0; what < 4; what++) {
+            checks.due("tons(0, " + what + ") is something", x.tons(0, what) > 0, true);
+        }
+        checks.says("Promise 3", "nothing HELD or going BACK, the bin empty, no TEARS, HOURS 0, it doesn't STAND, NOW 0");
+        nothingOfBefore(x);
+        x.set(3, 0, 1);
+        x.go(1);
+        checks.due("STANDS", x.state(6), 1);
+        nothingOfBefore(x);
+        checks.fine("so that ORE comes", x, x.go(1), 1);
+        checks.due("TONS that came", x.state(13), 20);
+        used(x);
+        Checks.mill(x, ANEW);
         checks.says("Promise 3", "RATE 1, WATER 1, the first ORE");
         checks.due("RATE", x.state(14), 1);
         checks.due("WATER", x.state(15), 1);
@@ -430,14 +468,30 @@ public final class EdgesOfTheTextTest {
         checks.due("no TRY: clear()", x.clear(), 0);
         checks.due("no PLAN", x.rate(0), RoarMill.NONE);
         checks.noneLed(x, 0);
-        // one that STANDS begins anew as well
-        x.set(3, 0, 1);
-        x.go(1);
-        checks.due("STANDS", x.state(6), 1);
-        Checks.mill(x, two);
-        checks.due("it doesn't STAND", x.state(6), 0);
-        checks.fine("so that ORE comes", x, x.go(1), 1);
-        checks.due("TONS that came", x.state(13), 20);
+    }
+
+    /** Whatever texts came ahead, sound or not. */
+    private static void millOfItsTextAlone() {
+        checks.in("a MILL is what its own text tells");
+        String rich = Texts.with("size a breaks 100 next 0", "size b breaks 100 next 0", "size c", "sieve a slips 9",
+            "price 9,9,9,9,9,9", "ore x hard 9 tons 50,50,50");
+        String plain = Texts.with("size a", "size b", "size c", "ore x hard 1 tons 50");
+        for (int between = 0; between < 3; between++) {
+            RoarMill x = Checks.milled(rich);
+            checks.due("GUESS of the one ahead: ROAR", x.guess(0, 0, 0, 0, 0), 0);
+            for (int i = 0; i < between; i++) {
+                Checks.mill(x, rich);
+            }
+            Checks.mill(x, rich + ";");
+            Checks.mill(x, plain);
+            checks.due("GUESS: ROAR", x.guess(0, 0, 0, 0, 0), 50);
+            checks.due("fits()", x.fits(), 100);
+            x.set(1, 0, 0);
+            x.go(1);
+            checks.due("TONS that came", x.state(13), 50);
+            checks.due("none of it breaks", x.tons(0, 0), 40);
+            checks.due("COST", x.state(12), 50);
+        }
     }
 
     private static void millRefused() {
