@@ -1,3 +1,4 @@
+import java.lang.reflect.Array;
 import java.lang.reflect.Constructor;
 import java.lang.reflect.Field;
 import java.lang.reflect.Method;
@@ -7,7 +8,9 @@ import java.nio.file.Path;
 import java.util.ArrayList;
 import java.util.Arrays;
 import java.util.HashSet;
+import java.util.IdentityHashMap;
 import java.util.List;
+import java.util.Map;
 import java.util.Set;
 import java.util.TreeSet;
 import java.util.regex.Matcher;
@@ -25,9 +28,12 @@ public final class FaceTest {
     private static final Checks checks = new Checks();
 
     public static void main(String[] args) throws Exception {
+        String text = withoutComments(Files.readString(Path.of("src/main/java/RoarMill.java")));
         theFace();
+        theFaceOfTheDocument(text);
         theClassesInside();
-        theText(withoutComments(Files.readString(Path.of("src/main/java/RoarMill.java"))));
+        theText(text);
+        theRoom();
         checks.finish();
     }
 
@@ -66,6 +72,33 @@ public final class FaceTest {
         checks.due("constructors", made.length, 1);
         checks.due("it is public", Modifier.isPublic(made[0].getModifiers()), true);
         checks.due("the class is final", Modifier.isFinal(RoarMill.class.getModifiers()), true);
+    }
+
+    /** Word for word: the document's block of Java, and the call at the head of each promise. */
+    private static void theFaceOfTheDocument(String text) throws Exception {
+        Path place = Path.of("../shared/DOC.md");
+        if (!Files.exists(place)) {
+            return;
+        }
+        checks.in("the document's face");
+        String document = Files.readString(place);
+        Matcher block = Pattern.compile("(?s)```java\n(.*?)```").matcher(document);
+        checks.due("there is a block of Java", block.find(), true);
+        int calls = 0;
+        for (String line : block.group(1).split("\n")) {
+            String told = line.strip();
+            boolean call = told.endsWith(";") && told.contains("(");
+            calls += call ? 1 : 0;
+            checks.due(told, text.contains(call ? told.replace(";", " {") : told), true);
+        }
+        checks.due("the constructor and the calls", calls, FACE.length + 1);
+        Matcher promises = Pattern.compile("(?m)^## Promise \\d+: .*\n\n`([^`]*)`: ").matcher(document);
+        int found = 0;
+        while (promises.find()) {
+            found++;
+            checks.due(promises.group(1), text.contains("    public " + promises.group(1) + " {"), true);
+        }
+        checks.due("promises that begin with a call", found, FACE.length + 1);
     }
 
     private static void theClassesInside() {
@@ -120,6 +153,55 @@ public final class FaceTest {
             }
         }
         methodLengths(text);
+    }
+
+    /** All is made with the object, and calls make no more: so 512 of them take the room of one object. */
+    private static void theRoom() throws Exception {
+        checks.in("the room");
+        RoarMill x = new RoarMill();
+        long[] first = roomOf(x);
+        checks.due("objects and arrays: " + first[0], first[0] <= 150, true);
+        checks.due("fields and elements: " + first[1], first[1] <= 12000, true);
+        String text = Texts.with("drum room 100 loud 80", "size a breaks 50 next 100", "size b", "bin 50 draws 5");
+        Checks.mill(x, text);
+        x.go(24);
+        x.seen(0, 2, 3, 0);
+        x.fits();
+        x.swapped();
+        x.plan(5);
+        x.rule(5);
+        for (int i = 0; i < 16; i++) {
+            x.number(i % 2 == 0, i);
+        }
+        x.chance();
+        x.marks(3, 4, 4, 0, 0, 11);
+        checks.due("as many objects after a run", roomOf(x)[0], first[0]);
+        checks.due("as many elements after a run", roomOf(x)[1], first[1]);
+    }
+
+    private static long[] roomOf(Object first) throws Exception {
+        Map<Object, Boolean> met = new IdentityHashMap<>();
+        List<Object> left = new ArrayList<>(List.of(first));
+        long elements = 0;
+        while (!left.isEmpty()) {
+            Object o = left.remove(left.size() - 1);
+            if (o == null || met.put(o, true) != null) {
+                continue;
+            }
+            if (o.getClass().isArray()) {
+                elements += Array.getLength(o);
+                left.addAll(o instanceof Object[] row ? Arrays.asList(row) : List.of());
+                continue;
+            }
+            for (Field f : o.getClass().getDeclaredFields()) {
+                if (!Modifier.isStatic(f.getModifiers())) {
+                    elements++;
+                    f.setAccessible(true);
+                    left.addAll(f.getType().isPrimitive() ? List.of() : Arrays.asList(f.get(o)));
+                }
+            }
+        }
+        return new long[] {met.size(), elements};
     }
 
     private static void methodLengths(String text) {
