@@ -93,7 +93,7 @@ public final class ReadmeTest {
         Files.delete(place);
     }
 
-    /** The first runs all tests, this one too, so that here it is only looked at; the others run one test each. */
+    /** The first runs all tests, this one too, so that here it is only looked at; the others run some of them. */
     private static void theCommands(List<String> sh) throws Exception {
         checks.in("the commands");
         checks.due("blocks", sh.size(), 3);
