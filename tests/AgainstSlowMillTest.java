@@ -63,10 +63,12 @@ public final class AgainstSlowMillTest {
             String breaks = oneIn(5) ? "" : " breaks " + within(0, 100) + " next " + within(0, 100);
             lines.add("size " + names.get(i) + breaks);
         }
-        lines.add(sizes, "sieve " + names.get(below(sizes)) + " slips " + within(0, 50));
+        int sieve = below(sizes);
+        lines.add(sieve + 1 + below(sizes - sieve), "sieve " + names.get(sieve) + " slips " + within(0, 50));
         for (int i = 0; i < ores; i++) {
-            int at = sizes + below(lines.size() - sizes + 1);
-            lines.add(at, "ore " + names.get(sizes + i) + " hard " + within(1, 9) + " tons " + row(1 + below(sizes), oneIn(3) ? 50 : 12));
+            int at = 1 + below(lines.size());
+            int ahead = sizesAhead(lines, at);
+            lines.add(at, "ore " + names.get(sizes + i) + " hard " + within(1, 9) + " tons " + row(1 + below(ahead), oneIn(3) ? 50 : 12));
         }
         String[] rest = {"drum room " + within(20, oneIn(2) ? 999 : 150) + " loud " + within(10, 200),
             "liner " + within(1, oneIn(2) ? 12 : 200),
@@ -75,6 +77,14 @@ public final class AgainstSlowMillTest {
             lines.add(below(lines.size() + 1), line);
         }
         return String.join(oneIn(2) ? ";" : " ; ", lines);
+    }
+
+    private static int sizesAhead(List<String> lines, int at) {
+        int ahead = 0;
+        for (String line : lines.subList(0, at)) {
+            ahead += line.startsWith("size ") ? 1 : 0;
+        }
+        return ahead;
     }
 
     private String spoiled(String text) {
